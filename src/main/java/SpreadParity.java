@@ -221,7 +221,7 @@ public final class SpreadParity {
 
     /** With two steps done, a LOST column has no cell that could hold the new value yet. */
     private static boolean keepsOldValue(int cut, boolean lost) {
-        return cut == 0 || cut == 1 || cut == 2 && lost;
+        return cut == 0 || cut == 1 || (cut == 2 && lost);
     }
 
     /** The columns of the stripes and the disks that have their cells. */

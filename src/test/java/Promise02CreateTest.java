@@ -46,6 +46,14 @@ public final class Promise02CreateTest {
         checks.due("create(5, 6)", x.create(5, 6), 1);
         extents(checks, x, 5, 6, 1, 13, 6, -1, -1, -1, -1);
         checks.due("count(0)", x.count(0), 1);
+
+        // The run at block 0 is the first, though the one at the end is longer.
+        SpreadParity y = new SpreadParity(1);
+        y.create(0, 5);
+        y.create(1, 5);
+        y.remove(0);
+        checks.due("create(2, 5)", y.create(2, 5), 1);
+        extents(checks, y, 2, 5, 1, 0, 5, -1);
     }
 
     private static void longestFirst(Checks checks) {

@@ -55,7 +55,7 @@ public final class Promise04WriteTest {
         x.create(1, 18);
         int[][] bad = {
             {-1, 0}, {8, 0}, {2, 0}, {0, -1}, {0, 3}, {0, Integer.MAX_VALUE}, {0, Integer.MIN_VALUE},
-            {Integer.MIN_VALUE, 0}, {Integer.MAX_VALUE, 0}, {1, 18},
+            {Integer.MIN_VALUE, 0}, {Integer.MAX_VALUE, 0}, {1, 18}, {1, -1}, {1, -3},
         };
         for (int[] at : bad) {
             for (int cut = -1; cut <= 4; cut++) {

@@ -39,6 +39,13 @@ public final class Promise05ReadTest {
         for (int[] at : bad) {
             checks.due("read(" + at[0] + ", " + at[1] + ")", x.read(at[0], at[1]), SpreadParity.NONE);
         }
+        // Blocks of another file stand before and behind this one's.
+        SpreadParity y = new SpreadParity(1);
+        y.create(0, 3);
+        y.create(1, 3);
+        y.create(2, 3);
+        checks.due("read(1, -1)", y.read(1, -1), SpreadParity.NONE);
+        checks.due("read(1, 3)", y.read(1, 3), SpreadParity.NONE);
     }
 
     private static void lostColumns(Checks checks) {

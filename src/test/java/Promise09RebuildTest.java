@@ -74,7 +74,11 @@ public final class Promise09RebuildTest {
         x.fail(2);
         x.fail(0);
         checks.due("stripe(0, 5)", x.stripe(0, 5), 0);
-        x.rebuild(21);
+        // Stripes 0 and 2 have no place, 3 and 5 are broken; 1 and 4 are left.
+        checks.due("rebuild(1)", x.rebuild(1), 1);
+        checks.due("stripe(1, 4)", x.stripe(1, 4), 3);
+        checks.due("rebuild(21)", x.rebuild(21), 1);
+        checks.due("stripe(4, 4)", x.stripe(4, 4), 2);
         checks.due("stripe(0, 0)", x.stripe(0, 0), 2);
         x.replace(0);
         checks.due("rebuild(1)", x.rebuild(1), 1);
@@ -87,7 +91,9 @@ public final class Promise09RebuildTest {
         y.fail(4);
         checks.due("stripe(0, 1)", y.stripe(0, 1), 2);
         checks.due("stripe(0, 5)", y.stripe(0, 5), 0);
-        y.rebuild(21);
+        // Only stripe 6 has a place for what it lost.
+        checks.due("rebuild(21)", y.rebuild(21), 1);
+        checks.due("stripe(6, 4)", y.stripe(6, 4), 2);
         checks.due("stripe(0, 1)", y.stripe(0, 1), 2);
         checks.due("stripe(0, 4)", y.stripe(0, 4), 0);
         y.replace(2);
