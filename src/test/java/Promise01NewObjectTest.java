@@ -62,6 +62,19 @@ public final class Promise01NewObjectTest {
         x.fail(3);
         x.alter(0, 0, 1);
         x.scrub(2);
-        checks.same("calls on another object", y, new SpreadParity(1));
+        for (int f = 0; f < 8; f++) {
+            checks.due("file(" + f + ", 0) of the other", y.file(f, 0), 0);
+        }
+        for (int d = 0; d < 7; d++) {
+            checks.due("disk(" + d + ", 0) of the other", y.disk(d, 0), 1);
+            checks.due("disk(" + d + ", 1) of the other", y.disk(d, 1), 4);
+        }
+        int[] counts = {21, 21, 0, 0, 0, 0, 1};
+        for (int what = 0; what <= 6; what++) {
+            checks.due("count(" + what + ") of the other", y.count(what), counts[what]);
+        }
+        y.create(0, 3);
+        y.write(0, 0, 5, 9);
+        checks.due("read(0, 0)", x.read(0, 0), 0);
     }
 }

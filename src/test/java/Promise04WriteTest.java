@@ -313,15 +313,28 @@ public final class Promise04WriteTest {
         for (int cut = 0; cut <= 4; cut++) {
             SpreadParity x = States.filled();
             x.write(0, 1, NEW, cut);
-            x.write(0, 1, States.word(1), 9);
-            for (int later = 0; later <= 3; later++) {
-                x.write(0, 0, States.word(0), later);
-                x.write(0, 4, States.word(4), later);
-                blocks(checks, "cut " + cut + ", then " + later, x, States.word(1));
-            }
-            checks.due("write(0, 1, 5, 1)", x.write(0, 1, 5, 1), CRASHED);
-            blocks(checks, "cut " + cut + ", then the same cell", x, States.word(1));
+            laterCalls(checks, "cut " + cut, x, cut < 2 ? States.word(1) : NEW);
+            SpreadParity y = States.filled();
+            y.write(0, 1, NEW, 9);
+            y.write(0, 1, NEW - 1, cut);
+            laterCalls(checks, "done, then cut " + cut, y, cut < 2 ? NEW : NEW - 1);
         }
+    }
+
+    private static void laterCalls(Checks checks, String when, SpreadParity x, int word) {
+        for (int later = 0; later <= 4; later++) {
+            x.write(0, 0, States.word(0), later);
+            blocks(checks, when + ", a write beside it", x, word);
+            x.write(0, 4, States.word(4), later);
+            blocks(checks, when + ", a write elsewhere", x, word);
+        }
+        x.scrub(7);
+        x.fail(4);
+        x.rebuild(21);
+        x.replace(4);
+        x.moveBack(21);
+        blocks(checks, when + ", its column lost and worked out", x, word);
+        checks.due(when + ": count(3)", x.count(3), 0);
     }
 
     private static void movedColumns(Checks checks) {

@@ -78,22 +78,26 @@ public final class TermsTest {
     /** A column that is worked out from the other three is fine only if column 3 fits. */
     private static void parity(Checks checks) {
         checks.sentence("column 3 is the exclusive-or of the three");
-        int[] words = {Integer.MIN_VALUE, -1, Integer.MAX_VALUE};
-        for (int s = 0; s < 7; s++) {
-            for (int c = 0; c < 4; c++) {
-                SpreadParity x = new SpreadParity(1);
-                x.create(0, 21);
-                for (int i = 0; i < 3; i++) {
-                    x.write(0, 3 * s + i, words[i], 9);
-                }
-                x.fail(States.home(s, c));
-                x.rebuild(21);
-                checks.due("stripe(" + s + ", " + c + "), worked out", x.stripe(s, c), 0);
-                checks.due("count(3)", x.count(3), 0);
-                for (int i = 0; i < 3; i++) {
-                    checks.due("read(0, " + (3 * s + i) + ")", x.read(0, 3 * s + i), words[i]);
-                }
+        int[][] words = {{Integer.MIN_VALUE, -1, Integer.MAX_VALUE}, {5, Integer.MIN_VALUE, 3}, {-1, -1, -1}};
+        for (int[] three : words) {
+            for (int at = 0; at < 28; at++) {
+                parityOf(checks, three, at / 4, at % 4);
             }
+        }
+    }
+
+    private static void parityOf(Checks checks, int[] words, int s, int c) {
+        SpreadParity x = new SpreadParity(1);
+        x.create(0, 21);
+        for (int i = 0; i < 3; i++) {
+            x.write(0, 3 * s + i, words[i], 9);
+        }
+        x.fail(States.home(s, c));
+        x.rebuild(21);
+        checks.due("stripe(" + s + ", " + c + "), worked out", x.stripe(s, c), 0);
+        checks.due("count(3)", x.count(3), 0);
+        for (int i = 0; i < 3; i++) {
+            checks.due("read(0, " + (3 * s + i) + ")", x.read(0, 3 * s + i), words[i]);
         }
     }
 
@@ -441,7 +445,8 @@ public final class TermsTest {
         checks.due("write(1, 0, 7, 9), not there", x.write(1, 0, 7, 9), REFUSED);
         checks.due("read(1, 0), not there", x.read(1, 0), SpreadParity.NONE);
         checks.due("fail(2), absent", x.fail(2), REFUSED);
-        checks.due("replace(5), present", x.replace(5), REFUSED);
+        checks.due("replace(0), present", x.replace(0), REFUSED);
+        checks.due("replace(5), present and new", x.replace(5), REFUSED);
         checks.due("alter(5, 1, 7), LOST", x.alter(5, 1, 7), REFUSED);
         checks.due("alter(0, 0, 0), no mask", x.alter(0, 0, 0), REFUSED);
         checks.same("what is refused", x, States.mixed());
